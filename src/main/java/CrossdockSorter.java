@@ -48,7 +48,6 @@ public final class CrossdockSorter {
         overflow = new Row(MAX_PARCELS);
         fleet = new Fleet();
         timesSeen = new int[MAX_PARCELS];
-        ticksPassed = 0L;
     }
 
     // The loop and its stations.
@@ -471,7 +470,6 @@ public final class CrossdockSorter {
 
         Row(int length) {
             numbers = new int[Math.max(length, 0)];
-            count = 0;
         }
 
         int at(int index) {
@@ -522,8 +520,6 @@ public final class CrossdockSorter {
             routes[parcel] = route;
             weights[parcel] = weight;
             states[parcel] = WAITS;
-            lastRounds[parcel] = 0;
-            trucksTaken[parcel] = NONE;
             arrived++;
             return parcel;
         }

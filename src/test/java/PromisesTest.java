@@ -40,8 +40,10 @@ public final class PromisesTest {
         promise17();
         promise18();
         promises19And20();
+        promises19And20WithRounds();
         promise21();
         promise21Balances();
+        promise21Twice();
         promise22();
         promise23();
         promise24();
@@ -540,6 +542,41 @@ public final class PromisesTest {
         due("20: the overflow again", x.leavingByTrays(200), 1);
     }
 
+    private static void dueAhead(String what, CrossdockSorter x, int ticks, int want) {
+        due("19: " + what + ": leavingAhead(" + ticks + ")", x.leavingAhead(ticks), want);
+        due("20: " + what + ": leavingByTrays(" + ticks + ")", x.leavingByTrays(ticks), want);
+    }
+
+    private static void promises19And20WithRounds() {
+        CrossdockSorter x = small();
+        x.arrive(7, 1);
+        x.arrive(0, 1);
+        x.pass(9);
+        due("19: roundsOf(0)", x.roundsOf(0), 2);
+        dueAhead("before the last position", x, 2, 0);
+        dueAhead("at the last position", x, 3, 1);
+        x.arrive(0, 1);
+        x.arrive(0, 1);
+        // They are loaded at the ticks 10 and 11, and come to the overflow with two rounds at the ticks 21 and 22.
+        dueAhead("a full chute", x, 11, 1);
+        dueAhead("a full chute", x, 12, 2);
+        dueAhead("a full chute", x, 13, 3);
+        x.setCapacity(0, 2);
+        dueAhead("a chute with room for one more", x, 2, 1);
+        dueAhead("a chute with room for one more", x, 12, 2);
+        dueAhead("the one behind it comes to the overflow", x, 13, 3);
+        x.jam(1);
+        dueAhead("a jammed chute", x, 11, 1);
+        x.free(1);
+        x.setLimit(9);
+        dueAhead("another limit", x, 30, 1);
+        x.unassign(0);
+        dueAhead("another limit and no route", x, 30, 0);
+        due("19: nothing changed: roundsOf(0)", x.roundsOf(0), 2);
+        due("19: nothing changed: positionOf(0)", x.positionOf(0), 0);
+        due("19: nothing changed: inChute(0)", x.inChute(0), 1);
+    }
+
     private static void promise21() {
         CrossdockSorter x = new CrossdockSorter();
         dueThrow("21: no chute", STATE, () -> x.startWave());
@@ -582,6 +619,33 @@ public final class PromisesTest {
                 due("21: chuteFor(" + i + ")", x.chuteFor(i), chutes[i]);
             }
         }
+    }
+
+    private static void promise21Twice() {
+        CrossdockSorter x = new CrossdockSorter();
+        x.addChute(3, 1);
+        x.addChute(6, 30);
+        for (int i = 0; i < 8; i++) {
+            x.arrive(i, 9);
+        }
+        for (int wave = 0; wave < 2; wave++) {
+            due("21: all routes: startWave()", x.startWave(), 8);
+            for (int i = 0; i < 8; i++) {
+                due("21: of several the lowest number: chuteFor(" + i + ")", x.chuteFor(i), i % 2);
+            }
+        }
+        x.arrive(7, 1);
+        due("21: another load: startWave()", x.startWave(), 8);
+        due("21: the greatest load first: chuteFor(7)", x.chuteFor(7), 0);
+        due("21: then the others: chuteFor(0)", x.chuteFor(0), 1);
+        x.jam(6);
+        due("21: the chute 0 alone: startWave()", x.startWave(), 8);
+        for (int i = 0; i < 8; i++) {
+            due("21: the chute 0 alone: chuteFor(" + i + ")", x.chuteFor(i), 0);
+        }
+        x.free(6);
+        x.pass(2);
+        due("21: on the loop too: startWave()", x.startWave(), 8);
     }
 
     private static void promise22() {
