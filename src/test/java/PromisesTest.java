@@ -8,8 +8,8 @@ public final class PromisesTest {
     private static final Class<NoSuchElementException> NO_SUCH = NoSuchElementException.class;
     private static final Class<UnsupportedOperationException> UNSUPPORTED = UnsupportedOperationException.class;
     private static final Class<ArithmeticException> ARITHMETIC = ArithmeticException.class;
-    // For the parcels 270 to 299 the first sum ends at 8565; the first sums add up to 465 * 270 + 30 * 31 * 32 / 6, which
-    // is 130510, or 13 times 9973 and 861.
+    // For the parcels 270 to 299 the first sum ends at 8565; the first sums add up to 465 * 270 + 30 * 31 * 32 / 6,
+    // which is 130510, or 13 times 9973 and 861.
     private static final int SEAL_OF_LAST_THIRTY = 8618565;
     private static final int[] FAR = {Integer.MIN_VALUE, Integer.MAX_VALUE};
 
@@ -625,7 +625,12 @@ public final class PromisesTest {
         CrossdockSorter x = new CrossdockSorter();
         x.addChute(3, 1);
         x.addChute(6, 30);
-        for (int i = 0; i < 8; i++) {
+        x.arrive(0, 9);
+        for (int wave = 0; wave < 2; wave++) {
+            due("21: one route: startWave()", x.startWave(), 1);
+            due("21: sums are of this wave alone: chuteFor(0)", x.chuteFor(0), 0);
+        }
+        for (int i = 1; i < 8; i++) {
             x.arrive(i, 9);
         }
         for (int wave = 0; wave < 2; wave++) {

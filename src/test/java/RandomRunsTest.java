@@ -84,7 +84,7 @@ public final class RandomRunsTest {
             case "setLoop":
                 return 3 + random.nextInt(19);
             case "addChute":
-                return index == 0 ? random.nextInt(13) : random.nextInt(3) == 0 ? random.nextInt(32) : random.nextInt(6);
+                return random.nextInt(index == 0 ? 13 : random.nextInt(3) == 0 ? 32 : 6);
             case "setCapacity":
                 return index == 0 ? random.nextInt(6) : random.nextInt(12);
             case "setLimit":
