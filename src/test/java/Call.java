@@ -5,6 +5,8 @@ import java.util.Arrays;
 import java.util.HashMap;
 import java.util.List;
 import java.util.Map;
+import java.util.Set;
+import java.util.TreeSet;
 
 /** A call of the face by its name, which can be made on several sorters. */
 final class Call {
@@ -29,6 +31,11 @@ final class Call {
             }
         }
         return methods;
+    }
+
+    /** The names of all calls of the face. */
+    static Set<String> names() {
+        return new TreeSet<>(METHODS.keySet());
     }
 
     boolean changes() {

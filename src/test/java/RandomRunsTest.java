@@ -84,16 +84,16 @@ public final class RandomRunsTest {
             case "setLoop":
                 return 3 + random.nextInt(19);
             case "addChute":
-                return random.nextInt(index == 0 ? 13 : random.nextInt(3) == 0 ? 32 : 6);
+                return index == 0 ? positionOf(random) : random.nextInt(random.nextInt(3) == 0 ? 32 : 6);
             case "setCapacity":
-                return index == 0 ? random.nextInt(6) : random.nextInt(12);
+                return index == 0 ? random.nextInt(7) : random.nextInt(random.nextInt(3) == 0 ? 33 : 12);
             case "setLimit":
                 return random.nextInt(11);
             case "jam":
             case "free":
             case "stationAt":
             case "trayAt":
-                return random.nextInt(14) - 1;
+                return positionOf(random);
             case "arrive":
                 return index == 0 ? random.nextInt(8) : 1 + random.nextInt(9);
             case "pass":
@@ -107,7 +107,7 @@ public final class RandomRunsTest {
             case "truckOf":
                 return random.nextInt(random.nextInt(4) == 0 ? 301 : 60);
             case "assign":
-                return index == 0 ? random.nextInt(9) : random.nextInt(5);
+                return random.nextInt(index == 0 ? 9 : 7);
             case "parcelIn":
                 return index == 0 ? random.nextInt(12) : random.nextInt(8) - 1;
             case "sealOfTruck":
@@ -117,8 +117,13 @@ public final class RandomRunsTest {
             case "load":
                 return random.nextInt(9);
             default:
-                return random.nextInt(5);
+                return random.nextInt(7);
         }
+    }
+
+    // Most loops have fewer trays than the greatest one.
+    private static int positionOf(Random random) {
+        return random.nextInt(random.nextInt(3) == 0 ? 23 : 14) - 1;
     }
 
     private static Object answerOf(Object object, String name, Object[] arguments, String what)
